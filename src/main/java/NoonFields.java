@@ -537,7 +537,7 @@ public final class NoonFields {
             slots[slot].holdOne(now.kindOf(k), now.people[HIRE][k]);
         } else if (thing == Slot.ROW) {
             slots[slot].row.become(sheets[k]);
-        } else {
+        } else if (thing == Slot.NUMBER) {
             slots[slot].number = k;
         }
         return held;
@@ -919,24 +919,20 @@ public final class NoonFields {
 
         /** So many noons, without one (NO_ONE: with all). */
         void pass(int n, int without) {
-            for (int k = 0; k < n; k++) {
-                strikeTwelve(without);
-            }
-        }
-
-        private void strikeTwelve(int without) {
-            standNowhere();
-            for (int k = 0; k < count; k++) {
-                int one = (noon + k) % count;
-                if (one != without) {
-                    setOut(one);
+            for (int passed = 0; passed < n; passed++) {
+                standNowhere();
+                for (int k = 0; k < count; k++) {
+                    int one = (noon + k) % count;
+                    if (one != without) {
+                        setOut(one);
+                    }
                 }
+                // The draw comes at every noon, also where nobody could be caught.
+                if (draw() % 100 < late) {
+                    catchNearHome();
+                }
+                noon++;
             }
-            // The draw comes at every noon, also where nobody could be caught.
-            if (draw() % 100 < late) {
-                catchNearHome();
-            }
-            noon++;
         }
 
         private void setOut(int one) {

@@ -209,6 +209,13 @@ final class NoonsTest {
     private static void promise17Refused() {
         NoonFields x = new NoonFields();
         Due.is("best of nobody", x.best(0), Due.NONE);
+        NoonFields y = new NoonFields();
+        y.person(5, 3, 0);
+        Due.is("best of a HERMIT", y.best(0), 0);
+        Due.is("best of one", y.best(1), 0);
+        y.person(5, 3, 0);
+        Due.is("best of two HERMITS", y.best(0), 0);
+        Due.is("the first in order of two", y.best(1), 1);
         x.person(0, 0, 0);
         Due.bad(x, "best", 0, 1, v -> x.best(v));
         rooms(x, 0);
@@ -309,6 +316,7 @@ final class NoonsTest {
         y.lays(0, 1, 0);
         y.turns(0, 4);
         Due.is("SOLD to a child", y.sold(1, 0, 5), 0);
+        Due.is("SOLD for 60", y.sold(1, 0, 60), 0);
         Due.bad(y, "sold field", 0, 8, v -> y.sold(v, 0, 1));
         Due.bad(y, "sold one", 0, 0, v -> y.sold(0, v, 1));
         Due.bad(y, "sold n", 1, 60, v -> y.sold(0, 0, v));
@@ -338,6 +346,7 @@ final class NoonsTest {
         rooms(x, 0);
         Due.is("of several the least", x.nobodys(2, 0), 0);
         Due.is("of several: all LEFT", x.nobodys(2, 1), 300);
+        Due.is("NOBODY'S for 60", x.nobodys(60, 1), 100 + 6000);
         Due.bad(x, "nobodys n", 1, 60, v -> x.nobodys(v, 0));
         Due.bad(x, "nobodys what", 0, 1, v -> x.nobodys(1, v));
     }
@@ -397,11 +406,12 @@ final class NoonsTest {
             x.mark(1, k, Due.NONE);
         }
         x.mark(1, 0, 7);
-        x.mark(1, 10, -40);
+        x.mark(1, 9, 3);
+        x.mark(1, 10, -37);
         Due.is("places that are numbers alone", x.atHome(1, 3, 0), 1);
         Due.is("CORN beyond all FIELDS is 0", x.atHome(1, 3, 1), 40);
-        x.sheet(2, 1, 0);
-        Due.is("no places", x.atHome(2, 3, 1), 0);
+        x.sheet(3, 1, 0);
+        Due.is("no places", x.atHome(3, 60, 1), 0);
         Due.is("who begins is as ever", beginsAsEver(), 2);
         NoonFields y = new NoonFields();
         Due.is("NOTHING ahead of NONE", y.atHome(0, 0, 0), Due.NOTHING);

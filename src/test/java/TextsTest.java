@@ -3,6 +3,7 @@ final class TextsTest {
     public static void main(String[] args) {
         promise25And26();
         whatTextsGive();
+        oneTextBehindAnother();
         promise27And28();
         promise29Faults();
         promise29Depths();
@@ -71,6 +72,8 @@ final class TextsTest {
         gives("(0-1)<0", 1);
         gives("5&0", 0);
         gives("5&6", 1);
+        gives("(0-1)&(0-1)", 1);
+        gives("(0-1)|0", 1);
         gives("5|0", 1);
         gives("0|0", 0);
         gives("1|0&0", 1);
@@ -91,6 +94,19 @@ final class TextsTest {
         gives("9999*9999*9999*9999-5", 9999 * 9999 * 9999 * 9999 - 5);
         // -2147483648 by -1 wraps.
         gives("(0-1024*1024*2048)/(0-1)", Integer.MIN_VALUE);
+    }
+
+    private static void oneTextBehindAnother() {
+        NoonFields x = new NoonFields();
+        x.person(0, 0, 0);
+        Due.text(x, "fine 4", 0);
+        Due.is("fine by TEXT 0", x.fine(0), 4);
+        Due.text(x, "toll !1+!(2+3)", 1);
+        Due.text(x, "toll 7", 2);
+        Due.is("nothing of a longer one is left", x.toll(), 7);
+        Due.text(x, "toll !!", -107);
+        Due.is("a FAULT changes nothing", x.toll(), 7);
+        Due.is("why", x.why(1), 2);
     }
 
     private static void promise27And28() {
@@ -132,6 +148,16 @@ final class TextsTest {
         fault("walk  ", 6);
         fault("  toil s", 2);
         fault("walkd", 0);
+        fault("talk d", 0);
+        fault("poll s", 0);
+        fault("wine c", 0);
+        fault("walk dz", 5);
+        fault("walk az", 5);
+        fault("walk d~", 6);
+        fault("walk d`", 6);
+        fault("walk d{", 6);
+        fault("walk d1", 6);
+        fault("walk d:", 6);
         fault("Walk d", 0);
         fault("\twalk d", 0);
         fault("walk\td", 4);
@@ -147,7 +173,6 @@ final class TextsTest {
         fault("walk dc", 5);
         fault("walk d c", 7);
         fault("walk d 1", 7);
-        fault("walk d1", 6);
         fault("walk 1d", 6);
         fault("walk 1 2", 7);
         fault("walk 12345", 5);
