@@ -1,12 +1,30 @@
-import java.util.function.IntUnaryOperator;
+import java.util.function.Supplier;
+import java.util.function.ToIntFunction;
 
 /** Answers that are due: prints each one that is not, and ends with exit code 1 if there was one. */
 final class Due {
     static final int BAD = -1000000001, NO = -1000000002, FULL = -1000000003, NONE = -1000000005,
             NOTHING = -1000000011, KIND = -1000000012, INDEX = -1000000013, SIZE = -1000000014;
     private static int wrong = 0;
+    private static String sentence = "";
+
+    /** A call with one argument that is told. */
+    interface With {
+        int of(NoonFields x, int v);
+    }
 
     private Due() {
+    }
+
+    /** Tests one sentence of the document: each fault is told with it, also what the machine throws. */
+    static void sentence(String words, Runnable test) {
+        sentence = words + ": ";
+        try {
+            test.run();
+        } catch (RuntimeException | StackOverflowError thrown) {
+            tell("threw " + thrown);
+        }
+        sentence = "";
     }
 
     static void is(String call, long got, long want) {
@@ -24,48 +42,34 @@ final class Due {
     static void tell(String fault) {
         wrong++;
         if (wrong <= 50) {
-            System.out.println(fault);
+            System.out.println(sentence + fault);
         }
     }
 
-    /** BAD for each argument right outside low .. high and at the ends of the ints; nothing changes. */
-    static void bad(NoonFields x, String call, int low, int high, IntUnaryOperator of) {
+    /**
+     * A call that is refused: what it answers, and that it changes nothing. It is made on a new object, and a
+     * second one goes without it, so that no object has more calls than the document promises.
+     */
+    static void refused(Supplier<NoonFields> made, String call, int want, ToIntFunction<NoonFields> of) {
+        NoonFields x = made.get();
+        is(call, of.applyAsInt(x), want);
+        isSame("all behind " + call, Everything.of(x), Everything.of(made.get()));
+    }
+
+    /** BAD right outside low .. high and at the ends of the ints, and at low and high not. */
+    static void only(Supplier<NoonFields> made, String call, int low, int high, With of) {
+        only(made, call, low, high, BAD, of);
+    }
+
+    static void only(Supplier<NoonFields> made, String call, int low, int high, int want, With of) {
         for (int v : new int[] {low - 1, high + 1, Integer.MIN_VALUE, Integer.MAX_VALUE}) {
-            if (v < low || v > high) {
-                refused(x, call + " with " + v, BAD, () -> of.applyAsInt(v));
+            refused(made, call + " with " + v, want, x -> of.of(x, v));
+        }
+        for (int v : new int[] {low, high}) {
+            if (of.of(made.get(), v) == want) {
+                tell(call + " with " + v + " answered " + want + ", which is due only outside");
             }
         }
-    }
-
-    static void refused(NoonFields x, String call, int want, java.util.function.IntSupplier of) {
-        String before = everything(x);
-        is(call, of.getAsInt(), want);
-        isSame("all behind " + call, everything(x), before);
-    }
-
-    /** What an object tells of itself by calls that change nothing. */
-    static String everything(NoonFields x) {
-        StringBuilder all = new StringBuilder();
-        for (int what = 0; what < 8; what++) {
-            all.append(x.count(what)).append(' ');
-        }
-        for (int what = 0; what < 5; what++) {
-            all.append(x.year(what)).append(' ');
-        }
-        for (int one = 0; one < x.count(0); one++) {
-            for (int what = 0; what < 7; what++) {
-                all.append(x.told(one, what)).append(' ');
-            }
-        }
-        for (int field = 0; field < 9; field++) {
-            for (int what = 0; what < 3; what++) {
-                all.append(x.field(field, what)).append(' ');
-            }
-        }
-        for (int key = 0; key < 3; key++) {
-            all.append(x.why(key)).append(' ');
-        }
-        return all.toString();
     }
 
     /** Bytes for THE TAPE: fed by twelves, the last ones trimmed. */

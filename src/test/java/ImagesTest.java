@@ -20,7 +20,7 @@ final class ImagesTest {
         for (int k = 1; k <= 60; k++) {
             Due.is("tell", x.tell(-k), k);
         }
-        Due.refused(x, "the 61st", Due.FULL, () -> x.tell(0));
+        Due.is("the 61st", x.tell(0), Due.FULL);
         Due.is("60 wait", x.count(5), 60);
     }
 
@@ -99,7 +99,7 @@ final class ImagesTest {
         x.noons(9);
         Due.text(x, "walk d*3", 0);
         Due.is("keep", x.keep(), 3);
-        String kept = Due.everything(x);
+        String kept = Everything.told(x);
         int ahead = x.behind(50, 0);
         for (int again = 0; again < 3; again++) {
             x.deal(5);
@@ -116,7 +116,7 @@ final class ImagesTest {
             Due.text(x, "fine 4", 2);
             x.noons(20);
             Due.is("back", x.back(), 3);
-            Due.isSame("all is back", Due.everything(x), kept);
+            Due.isSame("all is back", Everything.told(x), kept);
             Due.is("what will be is back", x.behind(50, 0), ahead);
         }
         Due.is("a new one comes anew", x.person(0, 0, 0), 3);
@@ -163,6 +163,5 @@ final class ImagesTest {
         for (int what = 0; what < 8; what++) {
             Due.is("count " + what, x.count(what), due[what]);
         }
-        Due.bad(x, "count", 0, 7, v -> x.count(v));
     }
 }

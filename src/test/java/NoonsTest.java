@@ -133,7 +133,6 @@ final class NoonsTest {
         Due.is("the draw", x.count(7), 1103527590);
         Due.is("THE NOON", x.count(1), 1);
         Due.is("CORN", x.year(2), 90);
-        Due.bad(x, "noons", 1, 100, v -> x.noons(v));
     }
 
     private static void theLastNoon() {
@@ -168,7 +167,6 @@ final class NoonsTest {
         for (int what = 0; what < 5; what++) {
             Due.is("year " + what, x.year(what), due[what]);
         }
-        Due.bad(x, "year", 0, 4, v -> x.year(v));
     }
 
     private static void promise17() {
@@ -217,7 +215,6 @@ final class NoonsTest {
         Due.is("best of two HERMITS", y.best(0), 0);
         Due.is("the first in order of two", y.best(1), 1);
         x.person(0, 0, 0);
-        Due.bad(x, "best", 0, 1, v -> x.best(v));
         rooms(x, 0);
         Due.is("no way", x.best(0), Due.NONE);
         rooms(x, 4);
@@ -243,8 +240,6 @@ final class NoonsTest {
         Due.is("both so far", x.behind(1, 0), 58);
         rooms(x, 0);
         Due.is("LEFT behind 100", x.behind(100, 1), 200);
-        Due.bad(x, "behind n", 0, 100, v -> x.behind(v, 0));
-        Due.bad(x, "behind what", 0, 3, v -> x.behind(0, v));
     }
 
     private static void promise19() {
@@ -257,9 +252,6 @@ final class NoonsTest {
         Due.is("HAD of the other", x.has(1, 3, 1), 1);
         x.noons(2);
         Due.is("HOURS so far", x.has(0, 1, 0), 3);
-        Due.bad(x, "has one", 0, 1, v -> x.has(v, 0, 0));
-        Due.bad(x, "has n", 0, 100, v -> x.has(0, v, 0));
-        Due.bad(x, "has what", 0, 1, v -> x.has(0, 0, v));
     }
 
     private static void promise20() {
@@ -282,7 +274,6 @@ final class NoonsTest {
         Due.is("not by then", z.rota(1), Due.NONE);
         Due.is("nothing to have", z.rota(0), 0);
         Due.is("ROTA with nobody", new NoonFields().rota(9), 0);
-        Due.bad(z, "rota", 0, 9, v -> z.rota(v));
         rotaAtItsEnd();
     }
 
@@ -317,9 +308,6 @@ final class NoonsTest {
         y.turns(0, 4);
         Due.is("SOLD to a child", y.sold(1, 0, 5), 0);
         Due.is("SOLD for 60", y.sold(1, 0, 60), 0);
-        Due.bad(y, "sold field", 0, 8, v -> y.sold(v, 0, 1));
-        Due.bad(y, "sold one", 0, 0, v -> y.sold(0, v, 1));
-        Due.bad(y, "sold n", 1, 60, v -> y.sold(0, 0, v));
         NoonFields z = new NoonFields();
         z.person(0, 0, 0);
         z.person(0, 8, 0);
@@ -347,8 +335,6 @@ final class NoonsTest {
         Due.is("of several the least", x.nobodys(2, 0), 0);
         Due.is("of several: all LEFT", x.nobodys(2, 1), 300);
         Due.is("NOBODY'S for 60", x.nobodys(60, 1), 100 + 6000);
-        Due.bad(x, "nobodys n", 1, 60, v -> x.nobodys(v, 0));
-        Due.bad(x, "nobodys what", 0, 1, v -> x.nobodys(1, v));
     }
 
     private static void promise23() {
@@ -368,8 +354,6 @@ final class NoonsTest {
         x.lays(8, 0, 1);
         x.lays(0, 0, 8);
         Due.is("0 and 3 again", x.beside(5, 0), 3);
-        Due.bad(x, "beside n", 1, 60, v -> x.beside(v, 0));
-        Due.bad(x, "beside what", 0, 1, v -> x.beside(1, v));
         NoonFields y = new NoonFields();
         for (int k = 0; k < 8; k++) {
             y.person(5, 0, 0);
@@ -417,9 +401,6 @@ final class NoonsTest {
         Due.is("NOTHING ahead of NONE", y.atHome(0, 0, 0), Due.NOTHING);
         y.sheet(0, 0, 1);
         Due.is("nobody", y.atHome(0, 0, 0), Due.NONE);
-        Due.bad(x, "atHome sheet", 0, 3, v -> x.atHome(v, 0, 0));
-        Due.bad(x, "atHome n", 0, 60, v -> x.atHome(0, v, 0));
-        Due.bad(x, "atHome what", 0, 1, v -> x.atHome(0, 0, v));
     }
 
     /** At THE NOON 1 of three 1 begins; without 2 still 1, then 0. */
@@ -450,7 +431,7 @@ final class NoonsTest {
         x.talk(0, 1, 1);
         x.noons(7);
         x.sheet(0, 1, 9);
-        String before = Due.everything(x);
+        String before = Everything.told(x);
         int next = x.behind(20, 0);
         x.best(0);
         x.has(0, 60, 1);
@@ -459,7 +440,7 @@ final class NoonsTest {
         x.nobodys(60, 0);
         x.beside(60, 0);
         x.atHome(0, 60, 0);
-        Due.isSame("all behind thinking", Due.everything(x), before);
+        Due.isSame("all behind thinking", Everything.told(x), before);
         x.noons(20);
         Due.is("what was thought comes", x.year(0), next);
     }

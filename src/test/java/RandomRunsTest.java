@@ -9,12 +9,15 @@ final class RandomRunsTest {
     private static final String[] PIECES = {"d", "c", "h", "s", "l", "0", "1", "7", "12", "999", "9999", "00", "12345",
         "(", "(", ")", ")", "!", "!", "+", "-", "*", "/", "<", "=", ">", "&", "|", " ", "  ", "walk", "dc", "~", "A"};
 
+    private static final int MOST_CALLS = 512;
+
     private final Random chance;
     private final NoonFields x = new NoonFields();
     private final PlainModel model = new PlainModel();
     private final StringBuilder run = new StringBuilder();
     private final Method[] methods;
     private int calls = 0;
+    private int last = 0;
     private boolean wrong = false;
 
     private RandomRunsTest(long seed, Method[] methods) {
@@ -43,7 +46,7 @@ final class RandomRunsTest {
             both("seed", chance.nextInt());
             both("deal", 1 + chance.nextInt(8));
         }
-        while (calls < 512 && !wrong) {
+        while (calls < MOST_CALLS && !wrong) {
             switch (chance.nextInt(12)) {
                 case 0: tellText(); break;
                 case 1: tellNoons(); break;
@@ -153,9 +156,8 @@ final class RandomRunsTest {
         both("keep");
         int n = 1 + chance.nextInt(4);
         for (int k = 1; k <= n; k++) {
-            both("tell", x.behind(k, 0));
-            both("tell", x.behind(k, 2) + (chance.nextInt(12) == 0 ? 1 : 0));
-            calls += 2;
+            both("tell", asked("behind", k, 0));
+            both("tell", asked("behind", k, 2) + (chance.nextInt(12) == 0 ? 1 : 0));
         }
         if (chance.nextBoolean()) {
             both("back");
@@ -187,14 +189,13 @@ final class RandomRunsTest {
         both("trim", text.length());
         run.append(" [").append(text).append("]");
         both("text");
-        both("textTold", x.count(4) - 1, 1);
-        both("textTold", x.count(4) - 1, 0);
+        both("textTold", asked("count", 4) - 1, 1);
+        both("textTold", asked("count", 4) - 1, 0);
         both("toll");
         both("fine", 0);
         for (int f = 0; f < 9; f++) {
             both("walk", 0, f, 0);
         }
-        calls += 2;
     }
 
     private void expression(StringBuilder text, String names, int depth) {
@@ -226,14 +227,21 @@ final class RandomRunsTest {
         return number;
     }
 
+    /** What is then told in a call; what calls behind the last one answer is free. */
+    private int asked(String name, int... a) {
+        both(name, a);
+        return last;
+    }
+
     private void both(String name, int... a) {
-        if (wrong) {
+        if (wrong || calls >= MOST_CALLS) {
             return;
         }
         calls++;
         run.append(' ').append(name).append(java.util.Arrays.toString(a));
         int want = model.call(name, a);
         int got = call(name, a);
+        last = got;
         if (got != want) {
             wrong = true;
             Due.tell("answered " + got + ", due is " + want + ", last of:" + run);

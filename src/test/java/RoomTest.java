@@ -3,24 +3,27 @@ import java.lang.management.ManagementFactory;
 
 /** All calls of a run live in one room: no call makes an object, and a new one is small. */
 final class RoomTest {
-    private static final int CALLS = 300;
+    private static final int OBJECTS = 12, ROUNDS = 25;
     private static final ThreadMXBean THREADS = (ThreadMXBean) ManagementFactory.getThreadMXBean();
 
     public static void main(String[] args) {
         // The machine's own loading of classes is not counted.
-        use(new NoonFields());
+        use(new NoonFields[] {new NoonFields()});
         long start = bytes();
-        NoonFields x = new NoonFields();
-        long size = bytes() - start;
+        NoonFields[] all = new NoonFields[OBJECTS];
+        for (int k = 0; k < OBJECTS; k++) {
+            all[k] = new NoonFields();
+        }
+        long size = (bytes() - start) / OBJECTS;
         Due.is("a new one of " + size + " bytes takes 16000 at most", size <= 16000 ? 1 : 0, 1);
         // What telling the bytes takes itself is taken off.
         long before = bytes();
         long cost = bytes() - before;
         before = bytes();
-        use(x);
+        use(all);
         long taken = bytes() - before - cost;
         // One object in each round would take far more.
-        Due.is(CALLS + " rounds of calls take " + taken + " bytes, 2000 at most", taken <= 2000 ? 1 : 0, 1);
+        Due.is("rounds of calls on " + OBJECTS + " take " + taken + " bytes, 2000 at most", taken <= 2000 ? 1 : 0, 1);
         Due.end("RoomTest");
     }
 
@@ -28,9 +31,15 @@ final class RoomTest {
         return THREADS.getThreadAllocatedBytes(Thread.currentThread().getId());
     }
 
+    private static void use(NoonFields[] all) {
+        for (int k = 0; k < all.length; k++) {
+            use(all[k]);
+        }
+    }
+
     private static void use(NoonFields x) {
         x.deal(5);
-        for (int k = 0; k < CALLS; k++) {
+        for (int k = 0; k < ROUNDS; k++) {
             x.best(0);
             x.nobodys(60, 0);
             x.beside(60, 0);

@@ -259,8 +259,6 @@ final class SheetsTest {
         Due.is("the last SLOT", x.ask(4, 0), 43);
         x.lay(4, 0, 0);
         Due.is("nothing again", x.ask(4, 0), Due.NOTHING);
-        Due.bad(x, "ask slot", 0, 4, v -> x.ask(v, 0));
-        Due.bad(x, "ask kind", 0, 5, v -> x.ask(0, v));
         Due.is("BAD ahead of NOTHING", x.ask(3, 6), Due.BAD);
         x.back();
         Due.is("for good", x.ask(0, 4), 43);

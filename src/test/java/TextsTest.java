@@ -38,7 +38,6 @@ final class TextsTest {
         Due.is("fine of 0", x.fine(0), x.told(0, 4) * 10 + x.told(0, 5));
         Due.is("fine of 1", x.fine(1), 30);
         Due.is("CAUGHT of 0", x.fine(0), 3);
-        Due.bad(x, "fine", 0, 1, v -> x.fine(v));
     }
 
     private static void gives(String e, int want) {
@@ -112,21 +111,19 @@ final class TextsTest {
     private static void promise27And28() {
         NoonFields x = new NoonFields();
         Due.is("trim of none", x.trim(0), 0);
-        Due.bad(x, "trim", 0, 0, v -> x.trim(v));
         Due.is("feed", x.feed(0, 0, 0), 12);
         Due.is("feed", x.feed(-1, -1, -1), 24);
         Due.is("bytes", x.count(6), 24);
-        Due.bad(x, "trim", 0, 24, v -> x.trim(v));
         Due.is("trim of all", x.trim(24), 24);
         Due.is("trim", x.trim(1), 1);
         Due.is("bytes", x.count(6), 1);
         for (int k = 0; k < 7; k++) {
             Due.is("feed", x.feed(0, 0, 0), 13 + 12 * k);
         }
-        Due.refused(x, "85 bytes and 12", Due.FULL, () -> x.feed(0, 0, 0));
+        Due.is("85 bytes and 12", x.feed(0, 0, 0), Due.FULL);
         Due.is("trim", x.trim(84), 84);
         Due.is("96 bytes", x.feed(0, 0, 0), 96);
-        Due.refused(x, "96 bytes and 12", Due.FULL, () -> x.feed(0, 0, 0));
+        Due.is("96 bytes and 12", x.feed(0, 0, 0), Due.FULL);
         // The highest byte of each number comes first: "toll", " 12+", "34  ".
         NoonFields y = new NoonFields();
         y.feed(0x746f6c6c, 0x2031322b, 0x33342020);
@@ -259,9 +256,6 @@ final class TextsTest {
         Due.is("why walk", x.why(0), 3);
         Due.is("why toll", x.why(1), 2);
         Due.is("why fine", x.why(2), 0);
-        Due.bad(x, "textTold text", 0, 3, v -> x.textTold(v, 0));
-        Due.bad(x, "textTold what", 0, 1, v -> x.textTold(0, v));
-        Due.bad(x, "why", 0, 2, v -> x.why(v));
     }
 
     private static void textsAndImages() {
