@@ -131,6 +131,14 @@ final class EdgesNoonsTest {
         z.lays(4, 2, 4);
         z.talk(0, 1, 1);
         Due.is("TALK, and no other FIELD", z.noons(3), 3);
+        for (int one = 0; one < 3; one++) {
+            NoonFields w = Made.neighbours(4, 4);
+            w.lays(4, 2, 4);
+            w.talk(3, one, 1);
+            w.noons(1);
+            Due.is("TALK with one of three", w.told(3, 3), 2);
+            Due.is("that one stays", w.told(one, 3), 16);
+        }
     }
 
     private static void leastWalk() {
@@ -277,7 +285,9 @@ final class EdgesNoonsTest {
         bell(18, 99, 0);
         bell(18, 100, 1);
         NoonFields x = Made.neighbours(1, 4);
-        x.noons(100);
+        x.noons(1);
+        Due.is("a draw also at LATE 0", x.count(7), 1103527590);
+        x.noons(99);
         Due.is("never at LATE 0", x.year(3), 0);
         x.late(100);
         x.noons(100);

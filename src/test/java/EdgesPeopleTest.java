@@ -187,6 +187,7 @@ final class EdgesPeopleTest {
         for (int what = 3; what < 6; what++) {
             Due.is("told " + what + " at first", x.told(4, what), 0);
         }
+        Due.is("HOURS and HAD behind 0", x.has(4, 0, 0) + x.has(4, 0, 1), 0);
         NoonFields y = new NoonFields();
         y.deal(8);
         for (int one = 0; one < 8; one++) {
@@ -226,6 +227,24 @@ final class EdgesPeopleTest {
             }
         }
         Due.is("all two of eight", x.count(3), 28);
+        talkOfOneThatComesAnew(0, 1);
+        talkOfOneThatComesAnew(1, 0);
+    }
+
+    /** 1 is gone with back, and its TALK; another one comes by its number. */
+    private static void talkOfOneThatComesAnew(int one, int other) {
+        NoonFields x = Made.neighbours(1, 4);
+        Made.rooms(x, 0);
+        x.lays(4, 2, 2);
+        x.keep();
+        x.person(0, 4, 0);
+        x.talk(one, other, 1);
+        x.back();
+        x.person(0, 4, 0);
+        Due.is("no two", x.count(3), 0);
+        Due.is("no TALK, whoever begins", x.noons(2), 0);
+        Due.is("not at first", x.talk(one, other, 1), 0);
+        Due.is("from then on", x.talk(other, one, 1), 1);
     }
 
     private static void lateFromTo() {

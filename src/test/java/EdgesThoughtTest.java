@@ -1,3 +1,4 @@
+import java.util.function.Supplier;
 import java.util.function.ToIntFunction;
 
 /** The sentences of the document that name a boundary case: Terms 3, promises 17 to 24; a test for each. */
@@ -239,15 +240,26 @@ final class EdgesThoughtTest {
         }
     }
 
-    private static void noThoughtChangesAnother() {
+    private static void noThoughtChangesAnother(Supplier<NoonFields> made) {
         for (int second = 0; second < 12; second++) {
-            int due = think(Made.busy(), second);
+            int due = think(made.get(), second);
             for (int first = 0; first < 10; first++) {
-                NoonFields x = Made.busy();
+                NoonFields x = made.get();
                 think(x, first);
                 Due.is("thought " + second + " behind thought " + first, think(x, second), due);
             }
         }
+    }
+
+    private static void noThoughtChangesAnother() {
+        noThoughtChangesAnother(Made::busy);
+        for (int many = 2; many <= 5; many++) {
+            int of = many;
+            noThoughtChangesAnother(() -> Made.neighbours(of, 0));
+        }
+        NoonFields x = Made.neighbours(2, 0);
+        Due.is("1 is on 0 at the second NOON", x.has(1, 2, 1), 3);
+        Due.is("that does not keep 0 from it", x.best(1), 1);
     }
 
     /** One that comes at THE NOON 9999, and those beside it. */
@@ -275,6 +287,8 @@ final class EdgesThoughtTest {
         NoonFields y = atTheEnd(2);
         y.lays(0, 2, 2);
         Due.is("beside", y.beside(2, 1), 2);
+        y.sheet(0, 0, 1);
+        Due.is("atHome of two", y.atHome(0, 2, 1), 8);
         onlyRoom(y, 0);
         Due.is("1 begins behind 9999", y.has(1, 1, 1), 1);
         Due.is("then 0", y.has(0, 1, 1), 0);
@@ -489,6 +503,12 @@ final class EdgesThoughtTest {
         x.lays(8, 1, 0);
         x.set(0, 1, 8);
         Due.is("8, the last", x.nobodys(1, 0), 8);
+        // 0 would go on its own FIELD 0, if it were nobody's, and 1, who may not stand on 3, far off.
+        NoonFields z = onlyRoom(Made.neighbours(2, 0), 0, 3, 8);
+        z.lays(0, 0, 0);
+        z.lays(3, 0, 1);
+        Due.is("1, which is nobody's as it is", z.nobodys(1, 0), 1);
+        Due.is("STEPS as it is", z.nobodys(1, 1), 20 + 10);
         NoonFields y = new NoonFields();
         Due.is("with nobody", y.nobodys(1, 0), 0);
         Due.is("with nobody the sum", y.nobodys(60, 1), 0);
@@ -639,6 +659,36 @@ final class EdgesThoughtTest {
         // 2 would begin; without it 0 is the next, and 1 may not stand on 8.
         sheet(y, 0, 9, 10, 10, 10, 10, 10, 10, 10, 10);
         atHome("without 2, who begins, 0 is next", y, 1, 2, 0);
+        for (int noon = 0; noon < 9; noon++) {
+            atHomeBeginsAt(noon);
+        }
+    }
+
+    /** Who goes first of three goes on 4, without CORN; 0 else on 0, 1 on 6, 2 on 8. */
+    private static void atHomeBeginsAt(int noon) {
+        NoonFields x = new NoonFields();
+        Made.noonsUpTo(x, noon);
+        x.person(0, 1, 0);
+        x.person(0, 3, 0);
+        x.person(0, 5, 0);
+        onlyRoom(x, 0, 4, 6, 8);
+        x.lays(4, 1, 0);
+        x.lays(6, 1, 5);
+        int[] on = {0, 6, 8};
+        int first = noon % 3;
+        for (int one = 0; one < 3; one++) {
+            // With one AT HOME two go; of them it is not the first, from the one with that number on, round.
+            int who = one == first ? (first + 1) % 3 : first;
+            int other = 3 - one - who;
+            int least = one;
+            for (int k = 0; k < one; k++) {
+                int w = k == first ? (first + 1) % 3 : first;
+                least = 3 - k - w == other ? Math.min(least, k) : least;
+            }
+            sheet(x, 0, 10, 10, 10, 10, 0, 10, 5, 10, 10);
+            x.mark(0, on[other], on[other] == 6 ? 4 : 9);
+            atHome("at NOON " + noon + " without " + one, x, 1, least, 0);
+        }
     }
 
     private static void atHomeDiffer() {
